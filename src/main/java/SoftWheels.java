@@ -53,7 +53,6 @@ public final class SoftWheels {
     private static final int TOO_DEAR = 7;
 
     private static final long NEVER = 1L << 60;
-    private static final int[] NO_TRAIL = {};
 
     private final byte[] tape;
     private int tapeSize;
@@ -71,6 +70,7 @@ public final class SoftWheels {
     private final Judge judge;
     private final Digs digs;
     private final int[] trail;
+    private final int[] noTrail;
     private int trailSize;
     private int refusal;
     private int lastFault;
@@ -96,6 +96,7 @@ public final class SoftWheels {
         judge = new Judge(land, steps);
         digs = new Digs(rules);
         trail = new int[TRAIL_ROOM];
+        noTrail = new int[0];
         trailSize = 0;
         refusal = 0;
         lastFault = 0;
@@ -419,7 +420,7 @@ public final class SoftWheels {
         int count = land.truthCount();
         for (int number = 0; number < count; number++) {
             int truth = land.stateOfTruth(number);
-            long paid = worsts.follow(from, start, truth, NO_TRAIL);
+            long paid = worsts.follow(from, start, truth, noTrail);
             most = Math.max(most, paid - worsts.valueFrom(truth, from));
         }
         return answer((int) most);
