@@ -942,14 +942,14 @@ public final class SoftWheels {
             int lastKey = NONE;
             int lastValue = 0;
             for (int i = 0; i <= MOST_PAIRS; i++) {
-                // Bounds are looked at ahead of the room: of one place the least fault counts.
-                if (tokens.kind == Tokens.WHOLE && i == MOST_PAIRS
-                        && tokens.value > lastKey && tokens.value <= mostKey) {
-                    return tokens.blame(MANY);
-                }
+                int keyPlace = tokens.at;
                 lastKey = tokens.takeWhole(lastKey + 1, mostKey);
                 if (lastKey == NONE) {
                     return false;
+                }
+                // Behind the bounds, as of one place the least fault counts.
+                if (i == MOST_PAIRS) {
+                    return tokens.blameAt(MANY, keyPlace);
                 }
                 lastValue = tokens.takeWhole(rising ? lastValue : 0, mostValue);
                 if (lastValue == NONE) {
@@ -1092,9 +1092,6 @@ public final class SoftWheels {
         }
 
         boolean read(Plan plan, Book book, int doubtCount) {
-            if (plan == null || book == null) {
-                return tokens.blame(FORM);
-            }
             into = plan;
             rules = book;
             doubts = doubtCount;
@@ -1879,10 +1876,13 @@ public final class SoftWheels {
 
         private int moveBy(int way, int times) {
             for (int i = 0; i < times; i++) {
-                int toll = steps.toll(cell, way, state);
                 int next = land.beside[cell * WAYS + way];
-                if (toll <= 0 || next < 0) {
-                    return next < 0 ? OFF_MAP : -toll;
+                if (next < 0) {
+                    return OFF_MAP;
+                }
+                int toll = steps.toll(cell, way, state);
+                if (toll <= 0) {
+                    return -toll;
                 }
                 cost += toll;
                 made++;

@@ -108,6 +108,10 @@ public final class BookTest {
     Due.bookFault("try a\u00e9", 1, 5);
     Due.bookFault("try \u0000a", 1, 4);
     Due.bookFault("up", 1, 0);
+    Due.bookFault(SAND + "\u0000", 1, SAND.length());
+    Due.bookFault("around a sinks 0 0 grips 0 1", 1, 0);
+    Due.bookFault("groune a sinks 0 0 grips 0 1", 1, 0);
+    Due.bookFault("ground a winks 0 0 grips 0 1", 1, 9);
   }
 
   private static void otherFaults() {

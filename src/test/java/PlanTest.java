@@ -81,6 +81,8 @@ public final class PlanTest {
     Due.planFault(x, "Up", 1, 0);
     Due.planFault(x, "up;\n", 1, 3);
     Due.planFault(x, "1", 1, 0);
+    Due.planFault(x, "up\u0000", 1, 2);
+    Due.planFault(x, "up\u00ff", 1, 2);
     Due.planFault(x, "else (up)", 1, 0);
     Due.planFault(x, "if", 1, 2);
     Due.planFault(x, "if rock is 0 (up)", 1, 3);
@@ -232,6 +234,13 @@ public final class PlanTest {
     x.told(0, 2);
     Due.same("one truth", x.failing(2, 0, 4, 9999), 1);
     first(x, 0, 3, 1);
+    Due.plan(x, "left");
+    x.ground(0, 2);
+    Due.same("into the first cell: bog", x.failing(3, 1, 0, 9999), 1);
+    first(x, 0, 3, 0);
+    x.height(0, 101);
+    Due.same("into the first cell: too steep", x.failing(3, 1, 0, 9999), 1);
+    first(x, 0, 2, 0);
   }
 
   private static void bounds() {

@@ -6,6 +6,7 @@ public final class StepTest {
     firstReason();
     deadWheelsDrag();
     heavy();
+    wholePull();
     noLoad();
     wrongInputs();
     Due.end("StepTest");
@@ -101,6 +102,19 @@ public final class StepTest {
     step(x, 1, 2, 0, 0, 59940, 90, 6095);
     x.height(0, 301);
     cannot(x, 1, 2, 0, 2);
+  }
+
+  /** The greatest pull that can be told, needed whole: 3 * 25 * 50 by 25. */
+  private static void wholePull() {
+    SoftWheels x = Due.withBook("ground a sinks 0 0 grips 0 149, 30 150, 31 0;rover wheels 4 weight 100 clear 9 tip 9 drag 50");
+    x.map(2, 1);
+    x.dead(3);
+    step(x, 0, 0, 0, 0, 3750, 30, 68);
+    x.height(1, 1);
+    cannot(x, 0, 0, 0, 4);
+    step(x, 1, 1, 0, 0, 3740, 30, 68);
+    x.height(1, 3);
+    step(x, 1, 1, 0, 0, 3720, 0, 48);
   }
 
   private static void noLoad() {

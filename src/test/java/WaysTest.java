@@ -313,6 +313,14 @@ public final class WaysTest {
     x.weigh(1, 1, 1);
     Due.same("worst(5, 9) with two doubts", x.worst(5, 9), 246);
     Due.same("worst(5, 14) to another goal", x.worst(5, 14), 235);
+    x.map(5, 3);
+    Due.same("worst(5, 14) on a new map", x.worst(5, 14), 55);
+    Due.same("worst(5, 9) on a new map", x.worst(5, 9), 44);
+    x.ground(8, 1);
+    x.ground(7, 1);
+    Due.same("way round", x.worst(5, 9), 66);
+    x.map(3, 5);
+    Due.same("worst(5, 14) on one of another form", x.worst(5, 14), 33);
     Due.book(x, ROCK + ";rover wheels 4 weight 100 clear 100 tip 100 drag 99");
     x.map(2, 1);
     Due.same("worst(0, 1)", x.worst(0, 1), 11);
