@@ -648,7 +648,7 @@ public final class SoftWheels {
         }
 
         void begin(int n) {
-            end = n;
+            end = Math.max(0, Math.min(n, text.length));
             behind = 0;
             fault = 0;
             place = NONE;
@@ -657,33 +657,24 @@ public final class SoftWheels {
 
         void advance() {
             at = behind;
-            while (at < end && byteAt(at) == ' ') {
+            while (at < end && text[at] == ' ') {
                 at++;
             }
             behind = at;
-            int first = byteAt(at);
-            if (first < 0) {
+            if (at >= end) {
                 kind = END;
-            } else if (isLetter(first)) {
+                return;
+            }
+            // Bytes above 127 are below 0 here; no token begins with one.
+            int first = text[at];
+            if (first >= 'a' && first <= 'z') {
                 readWord();
-            } else if (isDigit(first)) {
+            } else if (first >= '0' && first <= '9') {
                 readWhole();
             } else {
                 kind = isSign(first) ? first : STRANGE;
                 behind = at + 1;
             }
-        }
-
-        private int byteAt(int i) {
-            return i >= 0 && i < end && i < text.length ? text[i] & 255 : NONE;
-        }
-
-        private static boolean isLetter(int b) {
-            return b >= 'a' && b <= 'z';
-        }
-
-        private static boolean isDigit(int b) {
-            return b >= '0' && b <= '9';
         }
 
         private static boolean isSign(int b) {
@@ -692,8 +683,8 @@ public final class SoftWheels {
 
         private void readWord() {
             word = 0;
-            while (behind < end && isLetter(byteAt(behind))) {
-                word = word * 27 + (byteAt(behind) - 'a' + 1);
+            while (behind < end && text[behind] >= 'a' && text[behind] <= 'z') {
+                word = word * 27 + (text[behind] - 'a' + 1);
                 behind++;
             }
             kind = behind - at <= MOST_LETTERS ? WORD : STRANGE;
@@ -701,8 +692,8 @@ public final class SoftWheels {
 
         private void readWhole() {
             value = 0;
-            while (behind < end && isDigit(byteAt(behind))) {
-                value = value * 10 + (byteAt(behind) - '0');
+            while (behind < end && text[behind] >= '0' && text[behind] <= '9') {
+                value = value * 10 + (text[behind] - '0');
                 behind++;
             }
             kind = behind - at <= MOST_DIGITS ? WHOLE : STRANGE;
@@ -713,7 +704,7 @@ public final class SoftWheels {
                 return false;
             }
             for (int i = 0; i < letters.length(); i++) {
-                if (byteAt(at + i) != letters.charAt(i)) {
+                if (text[at + i] != letters.charAt(i)) {
                     return false;
                 }
             }
@@ -880,28 +871,22 @@ public final class SoftWheels {
         boolean read(Book into) {
             into.begin();
             for (int line = 0; line <= TAPE_ROOM; line++) {
-                if (!readLine(into)) {
-                    return false;
+                boolean good = false;
+                if (tokens.spells("ground")) {
+                    good = readGround(into);
+                } else if (tokens.spells("rover")) {
+                    good = readRover(into);
+                } else if (tokens.spells("try")) {
+                    good = readTry(into);
+                } else {
+                    tokens.blame(FORM);
                 }
-                if (tokens.kind == Tokens.END) {
-                    return true;
+                if (!good || tokens.kind == Tokens.END) {
+                    return good;
                 }
                 if (!tokens.take(Tokens.NEXT)) {
                     return false;
                 }
-            }
-            return tokens.blame(FORM);
-        }
-
-        private boolean readLine(Book into) {
-            if (tokens.spells("ground")) {
-                return readGround(into);
-            }
-            if (tokens.spells("rover")) {
-                return readRover(into);
-            }
-            if (tokens.spells("try")) {
-                return readTry(into);
             }
             return tokens.blame(FORM);
         }
