@@ -288,6 +288,26 @@ public final class ModelTest {
     }
   }
 
+  /** The widest map with costs of all kinds: what is near is often dear, so cells are found in no plain order. */
+  private void goRough() {
+    String text = "ground a sinks 0 0 grips 0 0, 90 40;ground b sinks 0 9 grips 0 0, 90 90;ground c sinks 0 30 grips 50 0, 90 60;"
+        + "ground d sinks 0 4 grips 0 150;rover wheels 4 weight 100 clear 50 tip 200 drag 0";
+    put(text);
+    ask("book", text.length());
+    ask("map", 10, 10);
+    for (int c = 0; c < 100; c++) {
+      ask("ground", c, up(4));
+      ask("height", c, up(rare(3) ? 200 : 40));
+    }
+    ask("doubt", up(100));
+    ask("weigh", 0, up(4), 3);
+    for (int i = 0; i < 4; i++) {
+      int to = up(100);
+      for (int k = 0; k < 12; k++) ask("worst", up(100), to);
+      ask("mean", up(100), to, false);
+    }
+  }
+
   private void questions(int from, int to, int doubts) {
     ask("worst", from, to);
     ask("mean", from, to, false);
@@ -310,6 +330,7 @@ public final class ModelTest {
     long seed = args.length > 1 ? Long.parseLong(args[1]) : 1;
     for (int i = 0; i < runs && wrong < 5; i++) new ModelTest(seed * 1000003 + i).go();
     for (int i = 0; i < runs / 3 && wrong < 5; i++) new ModelTest(seed * 7000003 + i).goMaze(3 + i % 4, 2 + i % 3);
+    for (int i = 0; i < 12 && wrong < 5; i++) new ModelTest(seed * 8000009 + i).goRough();
     if (wrong == 0) new ModelTest(seed * 9000011).goMaze(7, 5);
     System.out.println("ModelTest: " + calls + " calls, " + wrong + " runs wrong");
     if (wrong != 0) System.exit(1);
