@@ -166,6 +166,17 @@ public final class EdgesDigTest {
     tries(z, 2, 10, 10);
     dug(z, 3, 4);
     tries(z, 1, 10);
+    // Deeper first: both out for 5 each, or one in by 4, which lifts the other, and out.
+    SoftWheels u = Due.withBook("try a each -3 one 4 cost 3;try b each 0 one -4 cost 5" + TWO);
+    dug(u, 1, 1);
+    tries(u, 8, 0, 10);
+    SoftWheels v = Due.withBook("try a each 3 one -4 cost 1;try b each -4 one 0 cost 6;rover wheels 3 weight 1 clear 1 tip 0 drag 0");
+    dug(v, 3, 2, 1);
+    tries(v, 7, 0, 10);
+    // 2 4, 1 4, 1 1, 3 0, 0 0.
+    SoftWheels t = Due.withBook("try a each -3 one 0 cost 7;try b each -1 one 2 cost 2" + TWO);
+    dug(t, 2, 4);
+    tries(t, 18, 11, 0, 10, 1);
   }
 
   private static void asCheapTheFewest() {
@@ -252,8 +263,19 @@ public final class EdgesDigTest {
     Due.same("tryAt(0) of a new book", x.tryAt(0), -2);
     dug(x, 0, 1);
     Due.same("tryAt(0)", x.tryAt(0), 1);
+    tries(x, 1, 1);
     dug(x, 4, 0);
-    Due.same("tryAt(0)", x.tryAt(0), 0);
+    tries(x, 1, 0);
+    dug(x, 4, 4);
+    tries(x, 2, 0, 1);
+    Due.book(x, "try a each 0 one -4 cost 7;try b each -4 one 0 cost 3" + TWO);
+    dug(x, 4, 4);
+    tries(x, 6, 10, 11);
+    Due.book(x, "try a each 0 one -4 cost 2;try b each -4 one 0 cost 3" + SIX);
+    dug(x, 4, 0, 4, 0, 0, 1);
+    tries(x, 3, 11);
+    dug(x, 4, 1, 4, 1, 1, 1);
+    tries(x, 5, 0, 10);
     SoftWheels y = Due.withBook("try a each 0 one 0 cost 1;try b each 0 one 0 cost 1;try c each 0 one 0 cost 1;try d each 0 one 0 cost 1;"
         + "try e each 0 one 0 cost 1;try f each 0 one -1 cost 1" + SIX);
     y.dig(5, 1);

@@ -11,6 +11,7 @@ public final class EdgesTextTest {
     tapeFull();
     firstBytes();
     newBookBeginsAnew();
+    oneBookBehindAnother();
     bookRefusedByNumber();
     bookRefusedByFault();
     faultTold();
@@ -132,6 +133,15 @@ public final class EdgesTextTest {
     Due.same("count(13) behind a fault", x.count(13), 0);
     Due.refused(x, "book(0) of the empty tape", x.book(0), 4);
     Due.refused(x, "book(1) of the empty tape", x.book(1), 2);
+    Due.feed(x, " ");
+    x.book(20);
+    Due.same("where() of blanks", x.where(), 20);
+    Due.refused(x, "book(0) behind them", x.book(0), 4);
+    Due.same("where()", x.where(), 0);
+    Due.feed(x, SAND);
+    Due.refused(x, "book(0) of a tape that has bytes", x.book(0), 4);
+    Due.same("where()", x.where(), 0);
+    Due.same("count(13)", x.count(13), 0);
   }
 
   /** A book, a map, a doubt, a plan, dead wheels, a wheel dug in. */
@@ -170,6 +180,32 @@ public final class EdgesTextTest {
     Due.goodBook(0, TRY);
     Due.goodBook(1, SAND);
     Due.goodBook(8, grounds(7) + "ground h sinks 0 0 grips 0 1");
+  }
+
+  private static void oneBookBehindAnother() {
+    Due.edge("promise 3", "are the BOOK from now on: nothing of an older one, nor of one with a FAULT");
+    SoftWheels x = new SoftWheels();
+    String big = grounds(8) + tries(6) + "rover wheels 6 weight 999 clear 300 tip 300 drag 99";
+    for (int round = 0; round < 3; round++) {
+      Due.same("eight grounds", Due.book(x, big), 8);
+      counts(x, 8, 6, 6, 999, 300, 300, 99);
+      Due.same("one ground", Due.book(x, SAND), 1);
+      counts(x, 1, 0, 4, 100, 100, 100, 0);
+      Due.refused(x, "sink(1, 0)", x.sink(1, 0), 1);
+      Due.same("one try", Due.book(x, TRY), 0);
+      counts(x, 0, 1, 4, 100, 100, 100, 0);
+      if (round > 0) Due.refused(x, "eight grounds and a fault", Due.book(x, big + ";"), 4);
+      if (round > 1) Due.refused(x, "eight grounds and a fault", Due.book(x, big + ";"), 4);
+      counts(x, 0, 1, 4, 100, 100, 100, 0);
+      Due.same("a rover", Due.book(x, ROVER), 0);
+      counts(x, 0, 0, 2, 1, 1, 0, 0);
+    }
+    // Of fewer pairs than the one ahead had.
+    Due.same("four pairs", Due.book(x, "ground a sinks 0 0,1 1,2 2,3 3 grips 0 0,1 1,2 2,3 3"), 1);
+    Due.same("two pairs", Due.book(x, "ground a sinks 0 9,1 9 grips 0 8,1 8"), 1);
+    Due.same("one pair", Due.book(x, "ground a sinks 0 7 grips 0 6"), 1);
+    Due.same("sink(0, 999)", x.sink(0, 999), 7);
+    Due.same("grip(0, 90)", x.grip(0, 90), 6);
   }
 
   private static void bookRefusedByNumber() {
@@ -483,6 +519,9 @@ public final class EdgesTextTest {
     Due.goodBook(3, "ground a sinks 0 0 grips 0 1;ground aa sinks 0 0 grips 0 1;ground b sinks 0 0 grips 0 1");
     Due.goodBook(2, "ground abcdefgh sinks 0 0 grips 0 1;ground abcdefgi sinks 0 0 grips 0 1");
     Due.goodBook(2, "ground bbcdefgh sinks 0 0 grips 0 1;ground abcdefgh sinks 0 0 grips 0 1");
+    Due.goodBook(4, "ground ab sinks 0 0 grips 0 1;ground ba sinks 0 0 grips 0 1;ground bb sinks 0 0 grips 0 1;ground abb sinks 0 0 grips 0 1");
+    Due.goodBook(4, "ground b sinks 0 0 grips 0 1;ground bb sinks 0 0 grips 0 1;ground z sinks 0 0 grips 0 1;ground zz sinks 0 0 grips 0 1");
+    Due.goodBook(0, "try ab each 0 one 0 cost 1;try ba each 0 one 0 cost 1;try b each 0 one 0 cost 1;try bb each 0 one 0 cost 1");
     SoftWheels x = Due.goodBook(1, SAND);
     Due.same("told again in the next book", Due.book(x, SAND), 1);
   }
@@ -543,6 +582,27 @@ public final class EdgesTextTest {
       text.append(token);
     }
     Due.goodBook(1, text.toString());
+    Due.edge("terms I", "1 FORM: a word other than the one that is due");
+    for (String good : new String[] {SAND, TRY, ROVER}) {
+      for (String word : new String[] {"ground", "sinks", "grips", "try", "each", "one", "cost", "rover", "wheels", "weight", "clear", "tip", "drag"}) {
+        int place = good.indexOf(word);
+        for (int i = 0; i < word.length() && place >= 0; i++) {
+          String other = word.substring(0, i) + (word.charAt(i) == 'x' ? 'y' : 'x') + word.substring(i + 1);
+          Due.badBook(1, good.substring(0, place) + "^" + other + good.substring(place + word.length()));
+        }
+        if (place >= 0) Due.badBook(1, good.substring(0, place) + "^" + word + "s" + good.substring(place + word.length()));
+      }
+    }
+    Due.edge("terms I", "1 FORM: a TOKEN that is left out");
+    String[] lacking = {"^sand sinks 0 0 grips 0 10", "ground sinks ^0 0 grips 0 10", "ground sand ^0 0 grips 0 10", "ground sand sinks ^grips 0 10",
+        "ground sand sinks 0 ^grips 0 10", "ground sand sinks 0 0 ^0 10", "ground sand sinks 0 0 grips^", "ground sand sinks 0 0 grips 0^",
+        "ground sand sinks 0 0 ^1 1 grips 0 10", "^a each 0 one 0 cost 1", "try each ^0 one 0 cost 1", "try a ^0 one 0 cost 1", "try a each ^one 0 cost 1",
+        "try a each 0 ^0 cost 1", "try a each 0 one ^cost 1", "try a each 0 one 0 ^1", "try a each 0 one 0 cost^", "try a ^-1 one 0 cost 1",
+        "try a each 0 ^-1 cost 1", "^wheels 2 weight 1 clear 1 tip 0 drag 0", "rover ^2 weight 1 clear 1 tip 0 drag 0",
+        "rover wheels ^weight 1 clear 1 tip 0 drag 0", "rover wheels 2 ^1 clear 1 tip 0 drag 0", "rover wheels 2 weight ^clear 1 tip 0 drag 0",
+        "rover wheels 2 weight 1 ^1 tip 0 drag 0", "rover wheels 2 weight 1 clear ^tip 0 drag 0", "rover wheels 2 weight 1 clear 1 ^0 drag 0",
+        "rover wheels 2 weight 1 clear 1 tip ^drag 0", "rover wheels 2 weight 1 clear 1 tip 0 ^0", "rover wheels 2 weight 1 clear 1 tip 0 drag^"};
+    for (String lack : lacking) Due.badBook(1, lack);
     Due.edge("terms I", "(the end: its place)");
     text.setLength(0);
     for (String token : tokens) {

@@ -16,18 +16,22 @@ public final class EdgesWaysTest {
     noWay();
     noWayInOneTruth();
     whatIsSeen();
+    severalSeen();
     seenFromThenOn();
     leastNumber();
+    stepsCount();
     lowestTerms();
     wayRefused();
     runRefused();
     led();
+    longRun();
     regret();
     worth();
     spared();
     knownFirst();
     weightsOfTruths();
     leftTruths();
+    asItIsNow();
     Due.end("EdgesWaysTest");
   }
 
@@ -214,6 +218,15 @@ public final class EdgesWaysTest {
     Due.same("worst(0, 3) when it is mud", x.worst(0, 3), 11 + 191 + 11);
     x.told(0, 2);
     refusedBySix(x, 0, 3, -1, false);
+    // However little or much it weighs.
+    x.forget(0);
+    for (int much = 1; much <= 9; much++) {
+      x.weigh(0, 2, much);
+      refusedBySix(x, 0, 3, 0, false);
+      x.weigh(0, 0, much);
+      x.weigh(0, 1, 10 - much);
+      refusedBySix(x, 1, 3, 0, true);
+    }
     // The first of two truths has none.
     SoftWheels y = rock(3, 1);
     y.ground(1, 2);
@@ -248,6 +261,39 @@ public final class EdgesWaysTest {
     for (int[] f : from) Due.that("worth from " + f[0], x.worth(0, f[0], 9, false) > 0 == (f[1] > 0));
   }
 
+  private static void severalSeen() {
+    Due.edge("terms III", "the DOUBTS of its own CELL and of those beside it: all of them");
+    // In the midst of a cross all five are seen, at its ends two.
+    int[] cells = {4, 1, 3, 5, 7};
+    int[][] seen = {{0, 1, 2, 3, 4}, {0, 1}, {0, 2}, {0, 3}, {0, 4}};
+    for (int turn = 0; turn < 5; turn++) {
+      SoftWheels x = rock(3, 3);
+      int[] number = new int[5];
+      for (int i = 0; i < 5; i++) number[(i + turn) % 5] = x.doubt(cells[(i + turn) % 5]);
+      for (int open = 0; open < 5; open++) {
+        for (int d = 0; d < 5; d++) {
+          if (d != open) x.told(number[d], 0);
+        }
+        for (int at = 0; at < 5; at++) {
+          boolean sees = false;
+          for (int d : seen[at]) sees |= d == open;
+          int got = x.way(cells[at], 8, true);
+          Due.same("way(" + cells[at] + ", 8) when that of " + cells[open] + " is open", got == -1 ? x.trouble() : 0, sees ? 5 : 0);
+        }
+        x.told(number[open], 0);
+        x.forget(number[(open + 1) % 5]);
+      }
+    }
+    SoftWheels x = rock(3, 3);
+    for (int c : cells) {
+      int d = x.doubt(c);
+      x.weigh(d, 1, d + 1);
+    }
+    // By 1 or by 3, mud 2 of 3 times and 3 of 4 times: both of them 1 of 2 times.
+    Due.same("worst(4, 0)", x.worst(4, 0), 202);
+    mean(x, 4, 0, 112, 1);
+  }
+
   private static void seenFromThenOn() {
     Due.edge("terms III", "they are KNOWN to it from then on");
     SoftWheels x = ring();
@@ -275,6 +321,33 @@ public final class EdgesWaysTest {
     Due.same("down is cheaper", x.way(3, 5, false), 3);
     Due.same("left is cheaper", x.way(1, 7, true), 1);
     Due.same("right: it can't be by left", x.way(6, 8, true), 0);
+  }
+
+  private static void stepsCount() {
+    Due.edge("terms III", "of STEPS by which, from there on, the greatest COST ... (the mean) is the least: the STEP's own, too");
+    SoftWheels x = rock(2, 2);
+    x.ground(1, 1);
+    // From 1 and from 2 it is one step to 3.
+    Due.same("way(0, 3, false)", x.way(0, 3, false), 3);
+    Due.same("way(0, 3, true)", x.way(0, 3, true), 3);
+    x.ground(1, 0);
+    x.ground(2, 1);
+    Due.same("way(0, 3, false)", x.way(0, 3, false), 0);
+    Due.same("way(0, 3, true)", x.way(0, 3, true), 0);
+    // By mean in the sight of none of three doubts that weigh much: the step's cost weighs as much as what is behind it.
+    SoftWheels y = rock(10, 4);
+    int[] far = {37, 38, 39};
+    for (int d = 0; d < 3; d++) {
+      y.doubt(far[d]);
+      for (int g = 0; g < 3; g++) y.weigh(d, g, 9);
+    }
+    y.ground(1, 1);
+    for (int c = 11; c < 20; c++) y.height(c, c == 12 ? 0 : 999);
+    // From 0 to 2 by mud 202, round it by 10, 20, 21, 22, 12: 66.
+    Due.same("way(0, 2, true)", y.way(0, 2, true), 3);
+    mean(y, 0, 2, 66, 1);
+    Due.same("run(0, 2, true, 0)", y.run(0, 2, true, 0), 66);
+    led(y, 0, 10, 20, 21, 22, 12, 2);
   }
 
   private static BigInteger big(long v) { return BigInteger.valueOf(v); }
@@ -419,6 +492,58 @@ public final class EdgesWaysTest {
     led(y, Arrays.copyOf(cells, 45));
   }
 
+  private static final String[] MAZE = {
+    ".....#....",
+    ".###....#.",
+    "....~###..",
+    "###.#~~~#.",
+    ".~..#~#.#.",
+    ".#.#.~#...",
+    ".#0.~2#.##",
+    "~S#.#~....",
+    ".#4~~####.",
+    "~~~1~~G3.."};
+
+  /** Lured to one doubt behind another, all of them bog at last: far more cells than the map has. */
+  private static void longRun() {
+    Due.edge("promise 25", "The i-th CELL of the latest run(): of a run that comes to CELLS again and again");
+    String text = "ground rock sinks 0 0 grips 0 80;ground mud sinks 0 90 grips 0 0, 90 9;ground bog sinks 0 101 grips 0 0;"
+        + "ground awful sinks 0 100 grips 89 0,90 10;rover wheels 2 weight 100 clear 100 tip 100 drag 0";
+    SoftWheels x = Due.withBook(text);
+    SlowWheels y = new SlowWheels();
+    for (int i = 0; i < text.length(); i += 20) {
+      y.feed(Due.word(text, i), Due.word(text, i + 4), Due.word(text, i + 8), Due.word(text, i + 12), Due.word(text, i + 16));
+    }
+    y.book(text.length());
+    x.map(10, 10);
+    y.map(10, 10);
+    for (int c = 0; c < 100; c++) {
+      char is = MAZE[c / 10].charAt(c % 10);
+      if (is == '#') {
+        x.height(c, 999);
+        y.height(c, 999);
+      } else if (is == '~') {
+        x.ground(c, 3);
+        y.ground(c, 3);
+      }
+    }
+    int[] doubts = {62, 93, 65, 97, 82};
+    for (int d = 0; d < 5; d++) {
+      x.doubt(doubts[d]);
+      y.doubt(doubts[d]);
+      x.weigh(d, 0, 9);
+      y.weigh(d, 0, 9);
+      x.weigh(d, 2, 1);
+      y.weigh(d, 2, 1);
+    }
+    Due.same("truths()", x.truths(), 32);
+    Due.same("run(71, 96, true, 31)", x.run(71, 96, true, 31), y.run(71, 96, true, 31));
+    int[] cells = new int[194];
+    for (int i = 0; i < 194; i++) cells[i] = y.led(i);
+    led(x, cells);
+    Due.same("its end", x.led(193), 96);
+  }
+
   private static void regret() {
     SoftWheels x = ring();
     Due.edge("terms III", "REGRET: the greatest, over TRUTHS");
@@ -548,5 +673,88 @@ public final class EdgesWaysTest {
     mean(y, 5, 3, 160, 3);
     Due.same("in truth 0", y.run(5, 3, true, 0), 80);
     Due.same("in truth 1", y.run(5, 3, true, 1), 40);
+  }
+
+  /** Each call is answered by what is told now, whatever was asked ahead of it. */
+  private static void asItIsNow() {
+    SoftWheels x = rock(4, 1);
+    Due.edge("promises 11, 12, 9", "a height, a GROUND, DEAD wheels told anew count at once");
+    ways(x, 0, 3, 33);
+    x.height(1, 100);
+    // Up by 100 is 1000 needed: 21.
+    ways(x, 0, 3, 43);
+    x.height(1, 101);
+    Due.refused(x, "worst(0, 3)", x.worst(0, 3), 6);
+    x.height(1, 0);
+    ways(x, 0, 3, 33);
+    x.ground(2, 1);
+    ways(x, 0, 3, 213);
+    x.dead(1);
+    // Three wheels hold no mud: 900 of 75 times 9.
+    Due.refused(x, "worst(0, 3)", x.worst(0, 3), 6);
+    Due.refused(x, "mean(0, 3)", x.mean(0, 3, true), 6);
+    x.dead(0);
+    ways(x, 0, 3, 213);
+    // Two of them one behind the other.
+    x.dead(1);
+    x.height(1, 0);
+    Due.refused(x, "worst(0, 3)", x.worst(0, 3), 6);
+    x.dead(0);
+    x.ground(1, 1);
+    ways(x, 0, 3, 393);
+    x.ground(1, 0);
+    x.height(1, 100);
+    // Down by 100 into the mud nothing is needed.
+    ways(x, 0, 3, 43);
+    x.height(1, 0);
+    x.dead(1);
+    x.dead(0);
+    ways(x, 0, 3, 213);
+    Due.edge("promises 13, 14, 15, 16", "a DOUBT, its WEIGHTS, what is told of it and forgotten count at once");
+    x.doubt(2);
+    ways(x, 0, 3, 213);
+    x.weigh(0, 0, 1);
+    Due.same("worst(0, 3)", x.worst(0, 3), 213);
+    mean(x, 0, 3, 123, 1);
+    x.weigh(0, 0, 2);
+    mean(x, 0, 3, 93, 1);
+    x.told(0, 0);
+    ways(x, 0, 3, 33);
+    x.told(0, 1);
+    ways(x, 0, 3, 213);
+    x.forget(0);
+    mean(x, 0, 3, 93, 1);
+    x.weigh(0, 1, 0);
+    ways(x, 0, 3, 33);
+    Due.edge("promise 10", "a new MAP counts at once");
+    x.weigh(0, 1, 1);
+    x.worst(0, 3);
+    x.mean(0, 3, true);
+    x.map(4, 1);
+    ways(x, 0, 3, 33);
+    Due.same("way(1, 3): no doubt is seen", x.way(1, 3, true), 0);
+    x.ground(2, 1);
+    ways(x, 0, 3, 213);
+    x.map(2, 2);
+    ways(x, 0, 3, 22);
+    Due.same("way(1, 3)", x.way(1, 3, true), 3);
+    x.map(4, 1);
+    ways(x, 0, 3, 33);
+    Due.edge("promise 3", "a new BOOK counts at once");
+    Due.book(x, "ground mud sinks 0 90 grips 0 0, 90 9");
+    Due.refused(x, "worst(0, 3) without map", x.worst(0, 3), 1);
+    x.map(4, 1);
+    ways(x, 0, 3, 3 * 191);
+    Due.edge("promises 19, 20", "another goal, and the first one again");
+    ways(x, 0, 2, 2 * 191);
+    ways(x, 3, 2, 191);
+    ways(x, 0, 3, 3 * 191);
+  }
+
+  private static void ways(SoftWheels x, int from, int to, int cost) {
+    Due.same("worst(" + from + ", " + to + ")", x.worst(from, to), cost);
+    mean(x, from, to, cost, 1);
+    Due.same("run(" + from + ", " + to + ", false, 0)", x.run(from, to, false, 0), cost);
+    Due.same("run(" + from + ", " + to + ", true, 0)", x.run(from, to, true, 0), cost);
   }
 }
