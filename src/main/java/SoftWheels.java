@@ -1200,7 +1200,6 @@ public final class SoftWheels {
         /** Both bits of each doubt that is seen from a cell. */
         final int[] sight = new int[MOST_CELLS];
         final int[] beside = new int[MOST_CELLS * WAYS];
-        final int[] cellOf = new int[MOST_DOUBTS];
         final int[] known = new int[MOST_DOUBTS];
         final int[] weights = new int[MOST_DOUBTS * MOST_GROUNDS];
         /** The grounds of weight above 0 of each doubt, upwards. */
@@ -1252,7 +1251,6 @@ public final class SoftWheels {
         int addDoubt(int cell) {
             int d = doubts;
             doubts++;
-            cellOf[d] = cell;
             doubtOf[cell] = d;
             known[d] = NONE;
             for (int g = 0; g < MOST_GROUNDS; g++) {
