@@ -4,6 +4,7 @@ import java.util.NoSuchElementException;
 public final class SoftWheels {
     public static final int NONE = -1;
 
+    private static final long NO_LONG = 1L << 63;
     private static final int UNTOLD = -2;
     private static final int TAPE_ROOM = 500;
     private static final int FEED_BYTES = 20;
@@ -588,7 +589,7 @@ public final class SoftWheels {
 
     private long refuseLong(int why) {
         refusal = why;
-        return Long.MIN_VALUE;
+        return NO_LONG;
     }
 
     private boolean grant() {
@@ -1597,7 +1598,7 @@ public final class SoftWheels {
         long valueTold(int state, int d, int cell) {
             long sum = 0;
             for (int i = 0; i < land.choiceCount[d]; i++) {
-                sum = together(sum, valueFrom(state | land.stateBits(d, i), cell), d, i);
+                sum = together(sum, valueSeeing(state | land.stateBits(d, i), cell, 0), d, i);
             }
             return sum;
         }

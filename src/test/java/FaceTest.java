@@ -79,7 +79,7 @@ public final class FaceTest {
   private static void text(String source) {
     String code = source.replaceAll("(?s)/\\*.*?\\*/", "").replaceAll("//[^\n]*", "");
     for (String no : List.of("Exact(", "->", "::", "catch", "finally", "synchronized", "assert ", "static {", "System.out", "getMessage",
-        "Random", "currentTimeMillis", "nanoTime", "package ", "instanceof", "String +", "while (true)", "for (;;)", "var ", "...")) {
+        "Random", "currentTimeMillis", "nanoTime", "package ", "instanceof", "String +", "while (true)", "for (;;)", "var ", "...", "MIN_VALUE", "MAX_VALUE")) {
       Due.that("the text has no " + no, !code.contains(no));
     }
     for (String line : code.split("\n")) {
